@@ -865,10 +865,15 @@ public final class PassStones {
 
     /** The fewest men by whom all checks are so, weighed from the last check back. */
     private static final class Hiring {
+        // More than all checks together can need.
+        private static final int ENDLESS = MOST_CHECKS * LEVELS;
+
         // For each check and each stand behind the check ahead of it: the fewest men from there on.
         private final int[] fewest = new int[MOST_CHECKS * STANDS];
         private final int[] gains = new int[MOST_CHECKS];
         private int men = 0;
+        private int goal = 0;
+        private int goalMen = 0;
 
         void weigh(Road road) {
             for (int i = road.checks.size() - 1; i > 0; i--) {
@@ -878,8 +883,8 @@ public final class PassStones {
                 int from = road.checks.at(i - 1, CHECK_FROM) * DEEDS;
                 int to = road.checks.at(i - 1, CHECK_TO) * DEEDS + DEEDS;
                 for (int stand = from; stand < to; stand++) {
-                    int came = road.walk(first, until, stand);
-                    keep(i, stand, cost(road, i, came, bestGoal(road, i, came)));
+                    seekGoal(road, i, road.walk(first, until, stand));
+                    keep(i, stand, goalMen);
                 }
             }
         }
@@ -889,7 +894,7 @@ public final class PassStones {
             men = 0;
             for (int i = 0; i < gains.length && i < road.checks.size(); i++) {
                 int came = road.walk(passedAhead(road, i), passedAhead(road, i + 1), stand);
-                int goal = bestGoal(road, i, came);
+                seekGoal(road, i, came);
                 gains[i] = goal - highOf(came);
                 men += Math.abs(gains[i]);
                 stand = stand(goal, didOf(came));
@@ -905,24 +910,21 @@ public final class PassStones {
             return check <= 0 ? 0 : road.passedUntil(road.checks.at(check - 1, MINUTE));
         }
 
-        /** Of like ones the lowest, for that is the least gain. */
-        private int bestGoal(Road road, int check, int came) {
-            int best = road.checks.at(check, CHECK_FROM);
-            int bestCost = cost(road, check, came, best);
-            for (int goal = best + 1; goal <= road.checks.at(check, CHECK_TO); goal++) {
-                int goalCost = cost(road, check, came, goal);
-                if (goalCost < bestCost) {
-                    best = goal;
-                    bestCost = goalCost;
+        /** The height at a check by which the fewest go on: of like ones the lowest, the least gain. */
+        private void seekGoal(Road road, int check, int came) {
+            int high = highOf(came);
+            int did = didOf(came);
+            int to = road.checks.at(check, CHECK_TO);
+            boolean last = check + 1 >= road.checks.size();
+            goalMen = ENDLESS;
+            for (int h = road.checks.at(check, CHECK_FROM); h <= to; h++) {
+                int here = Math.abs(h - high);
+                int all = last ? here : here + fewestFrom(check + 1, stand(h, did));
+                if (all < goalMen) {
+                    goal = h;
+                    goalMen = all;
                 }
             }
-            return best;
-        }
-
-        private int cost(Road road, int check, int came, int goal) {
-            int here = Math.abs(goal - highOf(came));
-            boolean last = check + 1 >= road.checks.size();
-            return last ? here : here + fewestFrom(check + 1, stand(goal, didOf(came)));
         }
 
         private int fewestFrom(int check, int stand) {

@@ -292,7 +292,7 @@ public final class PromisesTest {
     private static void faults() {
         promise = "10 read, faults";
         Object[][] told = {
-            {"wal", 0}, {"walls 3;", 0}, {"  stone;", 2}, {";", 0}, {"3", 0}, {"wall 3;;", 7},
+            {"wal", 0}, {"tall 3;", 0}, {"look 1 2;book 1 2;", 9}, {"least 1 2;", 0}, {"coacx 1;", 0}, {"walls 3;", 0}, {"  stone;", 2}, {";", 0}, {"3", 0}, {"wall 3;;", 7},
             {"wall", 4}, {"wall ", 5}, {"wall 3", 6}, {"wall 3 ", 7}, {"wall ;", 5}, {"wall 3 4;", 7},
             {"wall 123;", 5}, {"wall123;", 4}, {"wall 1234", 5}, {"123;", 0}, {"wall 12 3;", 8},
             {"wall wall;", 5}, {"wall 3 wall 4;", 7}, {"Wall 3;", 0}, {"wall\t3;", 4}, {"wall -1;", 5},
@@ -710,6 +710,12 @@ public final class PromisesTest {
         fraction(x, "through long since", 0, 1);
         x.free(1, 1);
         fraction(x, "by then", 1, 1);
+        x.wall(30);
+        x.coach(30);
+        x.free(0, 0);
+        fraction(x, "30 is no higher than 30", 0, 1);
+        x.free(0, 1);
+        fraction(x, "30 is no higher than 30", 1, 1);
         due("wrong", x.free(2, 0), -2);
         due("wrong", x.free(-2, 0), -2);
         due("wrong", x.free(0, 2), -2);

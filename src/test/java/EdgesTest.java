@@ -22,6 +22,7 @@ public final class EdgesTest {
         checksRise();
         hiredEdges();
         hiredBetween();
+        hiredLowAndHigh();
         hiredOnceMore();
         hiredLikeOnes();
         turnsWhatCanBe();
@@ -476,6 +477,27 @@ public final class EdgesTest {
         gains("one who lays nothing on", v, 2, -2, 0);
     }
 
+    private static void hiredLowAndHigh() {
+        says("HIRED: 0 to 30 high, between checks that allow all of it");
+        PassStones x = wall(2);
+        x.check(1, 0, 30);
+        x.passer(2, CART, 0, 0);
+        x.check(2, 0, 30);
+        x.check(3, 0, 0);
+        gains("a cart takes all", x, 0, 0, 0, 0);
+        PassStones y = wall(29);
+        y.check(1, 0, 30);
+        y.passer(2, LAYER, 1, 0);
+        y.check(2, 0, 30);
+        y.passer(3, LAYER, 1, 0);
+        y.check(3, 30, 30);
+        gains("layers lay to 30, and one stone is left beside", y, 0, 0, 0, 0);
+        y.wall(28);
+        gains("layers lay to 30", y, 0, 0, 0, 0);
+        y.wall(27);
+        gains("one man more, as late as can be", y, 1, 0, 0, 1);
+    }
+
     private static void hiredOnceMore() {
         says("HIRED, asked once more behind other things");
         PassStones x = new PassStones();
@@ -553,6 +575,10 @@ public final class EdgesTest {
         for (int wish : new int[] {0, 3, 3, 3}) w.passer(0, TAKER, 1, wish);
         due("at 0 he can not take one more ahead of three who lay", w.turns(0), 0);
         due("the others have it their way", w.turns(-1), 3);
+        PassStones v = wall(1);
+        for (int wish : new int[] {3, 30, 30, 30}) v.passer(0, TAKER, 1, wish);
+        due("the last stone is one to take", v.turns(0), -1);
+        due("three lay", v.turns(-1), 3);
         PassStones z = wall(24);
         for (int i = 0; i < 12; i++) z.passer(0, CART, 1, 30);
         due("twelve lay to 30", z.turns(-1), 30);
